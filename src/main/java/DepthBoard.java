@@ -345,9 +345,8 @@ public final class DepthBoard {
             return BAD_NUMBER;
         }
         Tally counted = tallyOfAll();
-        counted.weighAlike();
         counted.seeNothing();
-        counted.spread(n);
+        counted.spreadAlike(n);
         return counted.totalWith(t);
     }
 
@@ -440,10 +439,9 @@ public final class DepthBoard {
             return refused;
         }
         Tally counted = tallyOfAll();
-        counted.weighAlike();
         counted.see(trays[tray]);
-        counted.spread(trays[tray].size);
-        return counted.total();
+        counted.spreadAlike(trays[tray].size);
+        return counted.totalOfAll();
     }
 
     public int whoPosted(int tray, int i) {
@@ -547,9 +545,10 @@ public final class DepthBoard {
         if (n < 0 || n > MOST_BY_CHANCE) {
             return BAD_NUMBER;
         }
-        Tally counted = spreadByOdds(n);
+        Tally counted = tallyOfAll();
+        counted.spreadByOdds(n);
         long above = counted.totalWith(t);
-        long below = counted.total();
+        long below = counted.totalOfAll();
         long shared = greatestShared(above, below);
         if (shared == 0) {
             return NONE;
@@ -561,7 +560,8 @@ public final class DepthBoard {
         if (n < 0 || n > MOST_BY_CHANCE) {
             return BAD_NUMBER;
         }
-        Tally counted = spreadByOdds(n);
+        Tally counted = tallyOfAll();
+        counted.spreadByOdds(n);
         int likeliest = NONE;
         long most = NONE;
         for (int t = 0; t < pool.things; t++) {
@@ -826,24 +826,17 @@ public final class DepthBoard {
     }
 
     private Tally tallyOfAll() {
-        Search found = explored(allGoers());
+        Search found = ready();
+        found.explore(allGoers());
         if (tally == null) {
             tally = new Tally(found);
         }
         return tally;
     }
 
-    private Tally spreadByOdds(int n) {
-        Tally counted = tallyOfAll();
-        counted.weighByOdds();
-        counted.seeNothing();
-        // With no odds at all nobody dives, so all stays as it is now.
-        counted.spread(pool.allOdds() == 0 ? 0 : n);
-        return counted;
-    }
-
     private Game gameOf(int first, int second) {
-        Search found = explored(first | second);
+        Search found = ready();
+        found.explore(first | second);
         if (game == null) {
             game = new Game(found);
         }
@@ -1085,24 +1078,20 @@ public final class DepthBoard {
             draft.board = takeNumber(MOST_DEEP);
             endLine();
             for (int i = 0; i < MOST_BYTES && kind != END && kind != STOPPED; i++) {
-                readLine();
+                if (isWord("thing")) {
+                    readThing();
+                } else if (isWord("goer")) {
+                    readGoer();
+                } else if (isWord("reaches")) {
+                    ofTells = false;
+                    draft.reaches = readLaw();
+                } else if (isWord("tells")) {
+                    ofTells = true;
+                    draft.tells = readLaw();
+                } else {
+                    fail(CANT_STAND);
+                }
                 endLine();
-            }
-        }
-
-        private void readLine() {
-            if (isWord("thing")) {
-                readThing();
-            } else if (isWord("goer")) {
-                readGoer();
-            } else if (isWord("reaches")) {
-                ofTells = false;
-                draft.reaches = readLaw();
-            } else if (isWord("tells")) {
-                ofTells = true;
-                draft.tells = readLaw();
-            } else {
-                fail(CANT_STAND);
             }
         }
 
@@ -1618,7 +1607,8 @@ public final class DepthBoard {
 
         /** The place a goer of the explored set leads to. */
         int placeAfter(int g, int place) {
-            return placeOf[after(g, order[place])];
+            int state = behind[g * STATES + order[place]] - 1;
+            return state < 0 ? place : placeOf[state];
         }
 
         int boardAt(int place) {
@@ -1692,14 +1682,6 @@ public final class DepthBoard {
             this.search = search;
         }
 
-        void weighAlike() {
-            Arrays.fill(weight, 1);
-        }
-
-        void weighByOdds() {
-            System.arraycopy(search.pool.odds, 0, weight, 0, MOST_GOERS);
-        }
-
         void seeNothing() {
             Arrays.fill(seen, NONE);
         }
@@ -1715,8 +1697,20 @@ public final class DepthBoard {
             return seen[dive] == NONE || seen[dive] == search.boardAt(place);
         }
 
+        void spreadAlike(int dives) {
+            Arrays.fill(weight, 1);
+            spread(dives);
+        }
+
+        void spreadByOdds(int dives) {
+            seeNothing();
+            System.arraycopy(search.pool.odds, 0, weight, 0, MOST_GOERS);
+            // With no odds at all nobody dives, so all stays as it is now.
+            spread(search.pool.allOdds() == 0 ? 0 : dives);
+        }
+
         /** How much all rows of so many dives weigh that lead to each place and are as seen. */
-        void spread(int dives) {
+        private void spread(int dives) {
             clear(total);
             if (search.size > 0) {
                 total[0] = 1;
@@ -1749,7 +1743,7 @@ public final class DepthBoard {
             }
         }
 
-        long total() {
+        long totalOfAll() {
             long all = 0;
             for (int p = 0; p < search.size; p++) {
                 all += total[p];
