@@ -1766,7 +1766,7 @@ public final class DepthBoard {
                 goesOn[p] = 1 << dives;
                 comesTo[p] = 0;
             }
-            for (int i = dives - 1; i >= 0; i--) {
+            for (int i = dives - 1; i > 0; i--) {
                 for (int p = 0; p < search.size; p++) {
                     if (firstOf(i, p) != NONE) {
                         goesOn[p] |= 1 << i;
