@@ -145,7 +145,9 @@ public final class DepthBoard {
         if (!isGoer(g)) {
             return NO_SUCH;
         }
-        diver.look(pool, now, g, now.board, now.things);
+        if (what > 2) {
+            diver.look(pool, now, g, now.board, now.things);
+        }
         switch (what) {
             case 0: return now.breath[g];
             case 1: return now.bold[g];
@@ -1521,11 +1523,16 @@ public final class DepthBoard {
      */
     private static final class Search {
         private static final int SETS = 1 << MOST_GOERS;
+        private static final int STATE_BITS = 13;
+        private static final int STATE_MASK = (1 << STATE_BITS) - 1;
+        private static final int LAST_AGE = 100000;
 
         final Diver diver;
         final Stand from = new Stand();
-        // For each goer and state the state behind a dive, and 1 more: 0 is not looked at yet.
+        // For each goer and state the state behind a dive, and above it the goer's age when it was looked at:
+        // a goer that changes grows older, so that nothing has to be wiped away.
         final int[] behind = new int[MOST_GOERS * STATES];
+        final int[] age = new int[MOST_GOERS];
         final int[] order = new int[STATES];
         final int[] placeOf = new int[STATES];
         // For each place in the order: the place ahead of its last dive, who went, how many dives.
@@ -1540,6 +1547,7 @@ public final class DepthBoard {
         Search(Diver diver, Pool pool) {
             this.diver = diver;
             this.pool = pool;
+            Arrays.fill(age, 1);
         }
 
         /** Goes on from a stand; what was found is forgotten only if it isn't so any more. */
@@ -1560,9 +1568,10 @@ public final class DepthBoard {
         }
 
         private void forgetGoer(int g) {
-            int first = g * STATES;
-            for (int i = 0; i < STATES; i++) {
-                behind[first + i] = 0;
+            age[g]++;
+            if (age[g] > LAST_AGE) {
+                Arrays.fill(behind, 0);
+                age[g] = 1;
             }
         }
 
@@ -1598,17 +1607,16 @@ public final class DepthBoard {
 
         private int after(int g, int state) {
             int i = g * STATES + state;
-            if (behind[i] == 0) {
+            if (behind[i] >> STATE_BITS != age[g]) {
                 diver.look(pool, from, g, boardOf(state), thingsOf(state));
-                behind[i] = 1 + stateOf(diver.post, diver.things);
+                behind[i] = age[g] << STATE_BITS | stateOf(diver.post, diver.things);
             }
-            return behind[i] - 1;
+            return behind[i] & STATE_MASK;
         }
 
         /** The place a goer of the explored set leads to. */
         int placeAfter(int g, int place) {
-            int state = behind[g * STATES + order[place]] - 1;
-            return state < 0 ? place : placeOf[state];
+            return placeOf[behind[g * STATES + order[place]] & STATE_MASK];
         }
 
         int boardAt(int place) {
