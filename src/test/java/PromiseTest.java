@@ -255,6 +255,9 @@ public final class PromiseTest {
         due("not >", posts("if not 2 > 1 then 11 else 22 end"), 22);
         due("not <", posts("if not 1 < 2 then 11 else 22 end"), 22);
         due("not not", posts("if not not 1 = 1 then 11 else 22 end"), 11);
+        due("as much held as can be", posts("1+2*if 0=1 or 1=1 and 3<".repeat(6) + "1+2*7" + " then 4 else 5 end".repeat(6)), 9);
+        due("as much held in else", posts("1+2*if 0=1 then 4 else ".repeat(6) + "0-1+2*0" + " end".repeat(6) + " + 2"), 1);
+        due("brackets and not", posts("1+2*if 0=1 or 1=1 and [ 0=1 or 1=1 and not [ 0=1 or 1=1 and not (1+2*3) = 7 ] ] then 4 else 5 end"), 9);
         due("if within a sum", posts("1 + if 1 = 1 then 2 else 3 end * 4"), 9);
         due("things ahead", told("pool 0;thing at 1;goer breath 5;tells : things;").dive(0), 0);
         due("the board ahead", told("pool 3;goer breath 5;tells : board * 2;").dive(0), 6);
