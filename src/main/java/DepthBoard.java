@@ -1594,7 +1594,7 @@ public final class DepthBoard {
         private void find(int state, int place, int g) {
             // What older searches left at placeOf is told by the order itself.
             int known = placeOf[state];
-            if (known < size && order[known] == state) {
+            if (known < size && order[known] == state || size >= STATES) {
                 return;
             }
             order[size] = state;
@@ -1916,7 +1916,7 @@ public final class DepthBoard {
         }
 
         private void reachedFrom(int position, int in) {
-            if (turns[position] != NONE) {
+            if (turns[position] != NONE || queued >= POSITIONS) {
                 return;
             }
             open[position]--;

@@ -1,14 +1,11 @@
 /** Each promise of the document by itself: ordinary calls, the edges it names, and refused calls that change nothing. */
-public final class PromiseTest {
+public final class PromiseTest extends Due {
     private static final String BASE = "pool 4;thing at 5 guard 3;thing at 10 needs 0;thing at 8 there guard 2;"
         + "goer breath 6 bold 1;goer breath 12 bold 5 odds 2;goer breath 3 bold 9;"
         + "tells : if reach > board then reach + 1 else board + 2 end;";
     /** Goer 0 posts 1 more, goer 1 posts 3 less; only from 5 on somebody gets down to the thing. */
     private static final String LADDER = "pool 2;thing at 50;goer breath 9;goer breath 9;"
         + "reaches : if board > 4 then 50 else 0 end;tells : if who = 0 then board + 1 else board - 3 end;";
-    private static int asked = 0;
-    private static int wrong = 0;
-    private static String about = "";
 
     private PromiseTest() { }
 
@@ -45,51 +42,11 @@ public final class PromiseTest {
         images();
         count();
         refusedOrder();
-        System.out.println("PromiseTest: " + asked + " answers, " + wrong + " wrong");
-        if (wrong != 0) System.exit(1);
-    }
-
-    private static void due(String call, long got, long want) {
-        asked++;
-        if (got != want) {
-            wrong++;
-            System.out.println(about + ": " + call + " answered " + got + ", due is " + want);
-        }
-    }
-
-    private static void load(DepthBoard x, String text) {
-        for (int i = 0; i < text.length(); i += 20) {
-            int[] five = new int[5];
-            for (int k = 0; k < 20; k++) {
-                int c = i + k < text.length() ? text.charAt(i + k) : ' ';
-                five[k / 4] = five[k / 4] << 8 | c & 255;
-            }
-            x.feed(five[0], five[1], five[2], five[3], five[4]);
-        }
-    }
-
-    private static DepthBoard told(String text) {
-        DepthBoard x = new DepthBoard();
-        load(x, text);
-        int lines = x.pool(text.length());
-        if (lines < 1) due("pool of " + text, lines, 1);
-        return x;
-    }
-
-    private static void tray(DepthBoard x, int tray, int sort, long... numbers) {
-        x.numbers(tray, sort, numbers.length);
-        for (int i = 0; i < numbers.length; i++) x.write(tray, i, numbers[i]);
-    }
-
-    /** Board, things there, and calls that can be undone. */
-    private static void stands(DepthBoard x, int board, int there, int undoable) {
-        due("count(0)", x.count(0), board);
-        due("count(2)", x.count(2), there);
-        due("count(6)", x.count(6), undoable);
+        end("PromiseTest");
     }
 
     private static void newObject() {
-        about = "1 a new object";
+        about("1 a new object");
         DepthBoard x = new DepthBoard();
         due("NONE", DepthBoard.NONE, -1);
         stands(x, 0, 0, 0);
@@ -103,7 +60,7 @@ public final class PromiseTest {
     }
 
     private static void feed() {
-        about = "2 feed";
+        about("2 feed");
         DepthBoard x = new DepthBoard();
         for (int i = 1; i <= 45; i++) due("feed " + i, x.feed(0, 0, 0, 0, 0), 20 * i);
         due("feed beyond 900", x.feed(0, 0, 0, 0, 0), -5);
@@ -115,7 +72,7 @@ public final class PromiseTest {
     }
 
     private static void pool() {
-        about = "3 pool";
+        about("3 pool");
         DepthBoard x = told(BASE);
         due("lines", x.count(8), 8);
         x.dive(0);
@@ -151,7 +108,7 @@ public final class PromiseTest {
     }
 
     private static void faults() {
-        about = "4 fault";
+        about("4 fault");
         fault("", 2, 0);
         fault("   ", 2, 3);
         fault("goer breath 1;", 2, 0);
@@ -194,7 +151,7 @@ public final class PromiseTest {
     }
 
     private static void texts() {
-        about = "4 fault, laws";
+        about("4 fault, laws");
         fault("pool 1;tells : reach;", 0, 0);
         fault("pool 1;tells : breath;", 2, 15);
         fault("pool 1;reaches : breath;", 0, 0);
@@ -234,7 +191,7 @@ public final class PromiseTest {
     }
 
     private static void laws() {
-        about = "the laws";
+        about("the laws");
         due("who, bold, board, things, reach", posts("who * 10 + bold + board + things + reach * 2"), 10 + 3 + 7 + 1 + 40);
         due("breath", told("pool 0;goer breath 20;reaches : breath - 3;").goer(0, 3), 17);
         due("no more than 99", posts("100"), 99);
@@ -268,7 +225,7 @@ public final class PromiseTest {
 
     /** What an older pool, breath or boldness led to is not kept. */
     private static void nothingOldIsKept() {
-        about = "nothing old is kept";
+        about("nothing old is kept");
         DepthBoard x = new DepthBoard();
         for (int depth = 0; depth < 20; depth++) {
             String text = "pool 3;thing at " + depth + ";goer breath 9;reaches : breath * 3 - 9 * 2;tells : " + "if 1 = 1 then board + ".repeat(5)
@@ -295,7 +252,7 @@ public final class PromiseTest {
     }
 
     private static void thing() {
-        about = "5 thing";
+        about("5 thing");
         DepthBoard x = told(BASE + "thing at 99 guard 4 guard 10 needs 2 needs 0;");
         due("depth", x.thing(3, 0), 99);
         due("guard, the later one", x.thing(3, 1), 10);
@@ -310,7 +267,7 @@ public final class PromiseTest {
     }
 
     private static void goer() {
-        about = "6 goer";
+        about("6 goer");
         DepthBoard x = told("pool 50;thing at 20 there guard 6;thing at 10 there guard 5;thing at 5 guard 10;"
             + "goer breath 30 bold 5;goer breath 30 bold 4 bold 6 odds 3 odds 0;goer breath 30;");
         due("breath", x.goer(0, 0), 30);
@@ -330,7 +287,7 @@ public final class PromiseTest {
     }
 
     private static void shows() {
-        about = "7 shows";
+        about("7 shows");
         DepthBoard x = told("pool 0;thing at 5;thing at 5 needs 0;thing at 6;thing at 7 there;goer breath 5;goer breath 4;");
         due("needs ahead, as deep, not deeper, there already", x.shows(0), 9);
         due("not so deep", x.shows(1), 8);
@@ -341,7 +298,7 @@ public final class PromiseTest {
     }
 
     private static void truthful() {
-        about = "8 truthful";
+        about("8 truthful");
         DepthBoard x = told("pool 4;goer breath 5;goer breath 6;goer breath 5;");
         due("truthful()", x.truthful(), 5);
         x.dive(0);
@@ -350,7 +307,7 @@ public final class PromiseTest {
     }
 
     private static void dive() {
-        about = "9 dive";
+        about("9 dive");
         DepthBoard x = told(BASE);
         due("dive(1)", x.dive(1), 13);
         stands(x, 13, 5, 1);
@@ -364,7 +321,7 @@ public final class PromiseTest {
     }
 
     private static void say() {
-        about = "10 say";
+        about("10 say");
         DepthBoard x = told(BASE);
         due("less than its reach", x.say(1, 11), -12);
         due("100", x.say(1, 100), -11);
@@ -378,7 +335,7 @@ public final class PromiseTest {
     }
 
     private static void wipe() {
-        about = "11 wipe";
+        about("11 wipe");
         DepthBoard x = told(BASE);
         x.dive(1);
         due("wipe(2)", x.wipe(2), 1);
@@ -391,7 +348,7 @@ public final class PromiseTest {
     }
 
     private static void breathAndBold() {
-        about = "12, 13 breath, bold";
+        about("12, 13 breath, bold");
         DepthBoard x = told(BASE);
         due("breath", x.breath(0, 99), 6);
         due("breath is", x.goer(0, 0), 99);
@@ -412,7 +369,7 @@ public final class PromiseTest {
     }
 
     private static void undo() {
-        about = "14 undo";
+        about("14 undo");
         DepthBoard x = told(BASE);
         due("nothing was done", x.undo(1), -3);
         x.breath(0, 50);
@@ -443,7 +400,7 @@ public final class PromiseTest {
     }
 
     private static void judgeAndPerform() {
-        about = "15, 16 judge, perform";
+        about("15, 16 judge, perform");
         DepthBoard x = told(BASE);
         due("missing", x.judge(0, 0), -6);
         due("what first", x.judge(0, 4), -2);
@@ -506,7 +463,7 @@ public final class PromiseTest {
     }
 
     private static void summer() {
-        about = "17 summer";
+        about("17 summer");
         DepthBoard x = told(BASE);
         due("0 times", x.summer(1, 0), -3);
         due("41 times", x.summer(1, 41), -3);
@@ -528,7 +485,7 @@ public final class PromiseTest {
     }
 
     private static void soonestAndWay() {
-        about = "18, 19 soonest, way";
+        about("18, 19 soonest, way");
         DepthBoard x = told(LADDER);
         due("three up, then down", x.soonest(0, 3), 4);
         due("way 0", x.way(0, 3, 0), 0);
@@ -559,7 +516,7 @@ public final class PromiseTest {
     }
 
     private static void tellsAndTellsBy() {
-        about = "20, 21 tells, tellsBy";
+        about("20, 21 tells, tellsBy");
         DepthBoard x = told(LADDER);
         due("now", x.tells(2, 0), 0);
         due("nobody", x.tellsBy(2, 3, 0), -1);
@@ -583,7 +540,7 @@ public final class PromiseTest {
     }
 
     private static void rows() {
-        about = "22 rows";
+        about("22 rows");
         DepthBoard x = told("pool 0;thing at 5;thing at 9;thing at 1 there;goer breath 5;goer breath 1;goer breath 1;goer breath 1;goer breath 1;goer breath 1;");
         due("0 dives", x.rows(0, 0), 0);
         due("0 dives, there", x.rows(2, 0), 1);
@@ -601,7 +558,7 @@ public final class PromiseTest {
     }
 
     private static void neededAndFewest() {
-        about = "23, 24 needed, fewest";
+        about("23, 24 needed, fewest");
         String twoLocks = "pool 0;thing at 5;thing at 5;thing at 90;thing at 5 there;goer breath 1;goer breath 1;goer breath 1;"
             + "reaches : if board = 9 then 5 else 0 end;"
             + "tells : if who = 0 and board = 0 then 4 else if who = 1 and board = 4 or who = 2 and board = 4 then 9 else board end end;";
@@ -631,7 +588,7 @@ public final class PromiseTest {
     }
 
     private static void howDeep() {
-        about = "25 to 29 how deep";
+        about("25 to 29 how deep");
         DepthBoard x = told("pool 50;thing at 5;thing at 9 there;goer breath 5;goer breath 1;goer breath 1;"
             + "tells : if who = 0 then 60 else if who = 1 then 40 else board end end;");
         due("deepest, nobody", x.deepest(0), 50);
@@ -663,7 +620,7 @@ public final class PromiseTest {
     }
 
     private static void posted() {
-        about = "30 to 32 posted, whoPosted, suspects";
+        about("30 to 32 posted, whoPosted, suspects");
         DepthBoard x = told("pool 0;goer breath 1;goer breath 2;goer breath 3;"
             + "tells : if who = 2 then board + 2 else board + who end;");
         due("missing", x.posted(0), -6);
@@ -707,7 +664,7 @@ public final class PromiseTest {
     }
 
     private static void boldsAndNexts() {
-        about = "33, 34 bolds, nexts";
+        about("33, 34 bolds, nexts");
         DepthBoard x = told("pool 0;thing at 20 there guard 4;goer breath 30 bold 1;goer breath 3;tells : if bold > 7 then reach + bold else reach end;");
         due("missing, but the goer first", x.bolds(0, 2), -2);
         due("tray", x.bolds(4, 0), -2);
@@ -740,7 +697,7 @@ public final class PromiseTest {
     }
 
     private static void forcing() {
-        about = "35 to 37 forces, best, power";
+        about("35 to 37 forces, best, power");
         // At 3 everybody gets down. Goer 0 posts 1 more, goer 1 posts 0, goer 2 leaves it.
         DepthBoard x = told("pool 0;thing at 9;thing at 0 there;thing at 99;goer breath 1;goer breath 1;goer breath 1;"
             + "reaches : if board > 2 then 9 else 0 end;tells : if who = 0 then board + 1 else if who = 1 then 0 else board end end;");
@@ -773,7 +730,7 @@ public final class PromiseTest {
     }
 
     private static void chances() {
-        about = "38, 39 chance, likeliest";
+        about("38, 39 chance, likeliest");
         DepthBoard x = told("pool 0;thing at 9;thing at 5;thing at 1 there;thing at 5;goer breath 9 odds 2;goer breath 5 odds 4;goer breath 1 odds 0;");
         due("above", x.chance(0, 1, 0), 1);
         due("below, in lowest terms", x.chance(0, 1, 1), 3);
@@ -807,7 +764,7 @@ public final class PromiseTest {
     }
 
     private static void trays() {
-        about = "40, 41 numbers, write";
+        about("40, 41 numbers, write");
         DepthBoard x = new DepthBoard();
         due("missing", x.write(0, 0, 5), -6);
         due("tray 4", x.write(4, 0, 5), -2);
@@ -838,7 +795,7 @@ public final class PromiseTest {
     }
 
     private static void lists() {
-        about = "42 lists";
+        about("42 lists");
         DepthBoard x = told(LADDER);
         due("tray first", x.lists(4, 1, 4), -2);
         due("then the thing", x.lists(0, 1, 4), -2);
@@ -860,7 +817,7 @@ public final class PromiseTest {
     }
 
     private static void images() {
-        about = "43, 44 image, restore";
+        about("43, 44 image, restore");
         DepthBoard x = told(BASE);
         due("image 2", x.image(2), -2);
         due("image -1", x.image(-1), -2);
@@ -905,7 +862,7 @@ public final class PromiseTest {
     }
 
     private static void count() {
-        about = "45 count";
+        about("45 count");
         DepthBoard x = told(BASE);
         load(x, "pool 1;");
         x.dive(0);
@@ -918,7 +875,7 @@ public final class PromiseTest {
     }
 
     private static void refusedOrder() {
-        about = "of several codes the first told";
+        about("of several codes the first told");
         DepthBoard x = told(BASE);
         due("soonest", x.soonest(9, 99), -2);
         due("way", x.way(9, 99, -1), -2);

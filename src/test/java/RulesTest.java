@@ -112,13 +112,6 @@ public final class RulesTest {
         }
     }
 
-    private static void load(DepthBoard x, String text) {
-        StringBuilder padded = new StringBuilder(text);
-        while (padded.length() % 20 != 0) padded.append(' ');
-        java.nio.IntBuffer ints = java.nio.ByteBuffer.wrap(padded.toString().getBytes(java.nio.charset.StandardCharsets.ISO_8859_1)).asIntBuffer();
-        while (ints.hasRemaining()) x.feed(ints.get(), ints.get(), ints.get(), ints.get(), ints.get());
-    }
-
     /** Every call with arguments at and beyond all edges, in many states. */
     private static void noCallThrows() throws Exception {
         Random random = new Random(7);
@@ -127,8 +120,7 @@ public final class RulesTest {
             DepthBoard x = new DepthBoard();
             if (run % 10 > 0) {
                 String text = texts.good();
-                load(x, text);
-                x.pool(text.length());
+                Due.tell(x, text);
             }
             List<String> calls = new ArrayList<>();
             Method[] methods = DepthBoard.class.getDeclaredMethods();
@@ -164,8 +156,7 @@ public final class RulesTest {
         String text = "pool 5;thing at 11 guard 7;thing at 13 needs 0;thing at 9 needs 0;thing at 7;thing at 11 guard 4 needs 3;thing at 14;"
             + "goer breath 6 bold 4;goer breath 5 bold 5;goer breath 7 bold 9;goer breath 8 bold 8;goer breath 10 bold 8;goer breath 2 bold 6;"
             + "reaches : breath + bold - board;tells : board + 2 - who;";
-        load(x, text);
-        x.pool(text.length());
+        Due.tell(x, text);
         x.numbers(0, 0, 12);
         ahead = bytes();
         for (int i = 0; i < 40; i++) {
