@@ -89,7 +89,7 @@ public final class DepthBoard {
         past = new Past();
         pool = new Pool();
         trays = new Tray[] {new Tray(), new Tray(), new Tray(), new Tray()};
-        images = new Image[] {new Image(pool), new Image(pool)};
+        images = new Image[] {new Image(), new Image()};
     }
 
     // ---- the pool
@@ -975,12 +975,8 @@ public final class DepthBoard {
 
     private static final class Image {
         final Stand stand = new Stand();
-        Pool pool;
+        Pool pool = new Pool();
         boolean made;
-
-        Image(Pool pool) {
-            this.pool = pool;
-        }
     }
 
     private static final class Tray {

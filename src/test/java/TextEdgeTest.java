@@ -628,6 +628,14 @@ public final class TextEdgeTest extends Due {
         reads("pool 1;tells : ((((((?", 1, 21);
         reads("pool 1;" + SIX_THINGS + "thing at 100;?", 4, 73);
         reads("pool 1;" + SIX_THINGS.substring(0, 65) + ", thing at 1;", 1, 72);
+        // The text that the shared runs feed last and leave unread: 1999, then 1990, then a word that is none of a law.
+        String head = "pool 99;thing at 99 guard 10 guard 9 there there;goer breath 99 bold 9 bold 8 odds 9 odds 8;"
+            + "reaches : ( ( ( 999 ) ) ) * 999;reaches : if not not who < 1 then 0 - 999 * 999 * 999 + 999 * 999 + ";
+        String middle = " + things * 3 + breath else 0 end;tells : 0 - 999;tells : 999 * 999 * 999 * 999 - 999 * 999 - ";
+        reads(head + "1999" + middle + "1990 + reach - breathless;", 1, head.length());
+        reads(head + "999" + middle + "1990 + reach - breathless;", 1, head.length() + 3 + middle.length());
+        reads(head + "999" + middle + "999 + reach - breathless;", 2, head.length() + 3 + middle.length() + 14);
+        reads(head + "999" + middle + "999 + reach - bold;", 0, 7);
     }
 
     private static void theLeastKind() {
