@@ -26,6 +26,8 @@ public final class DepthBoard {
     private static final int MOST_BOLD = 9;
     private static final int BOARDS = MOST_DEEP + 1;
     private static final int STATES = BOARDS << MOST_THINGS;
+    // From one stand no more than 16 sets of things can come, each with any board: MostSetsTest tries all needs and depths.
+    private static final int MOST_PLACES = 16 * BOARDS;
     private static final int MOST_UNDONE = 10;
     private static final int MOST_TIMES = 40;
     private static final int MOST_IN_TRAY = 40;
@@ -1529,12 +1531,12 @@ public final class DepthBoard {
         // a goer that changes grows older, so that nothing has to be wiped away.
         final int[] behind = new int[MOST_GOERS * STATES];
         final int[] age = new int[MOST_GOERS];
-        final int[] order = new int[STATES];
+        final int[] order = new int[MOST_PLACES];
         final int[] placeOf = new int[STATES];
         // For each place in the order: the place ahead of its last dive, who went, how many dives.
-        final int[] ahead = new int[STATES];
-        final int[] by = new int[STATES];
-        final int[] dives = new int[STATES];
+        final int[] ahead = new int[MOST_PLACES];
+        final int[] by = new int[MOST_PLACES];
+        final int[] dives = new int[MOST_PLACES];
         final int[] comes = new int[SETS];
         Pool pool;
         int goers = NONE;
@@ -1578,7 +1580,7 @@ public final class DepthBoard {
             goers = set;
             size = 0;
             find(stateOf(from.board, from.things), 0, NONE);
-            for (int p = 0; p < size && p < STATES; p++) {
+            for (int p = 0; p < size && p < MOST_PLACES; p++) {
                 for (int g = 0; g < pool.goers; g++) {
                     if (has(set, g)) {
                         find(after(g, order[p]), p, g);
@@ -1590,7 +1592,7 @@ public final class DepthBoard {
         private void find(int state, int place, int g) {
             // What older searches left at placeOf is told by the order itself.
             int known = placeOf[state];
-            if (known < size && order[known] == state || size >= STATES) {
+            if (known < size && order[known] == state || size >= MOST_PLACES) {
                 return;
             }
             order[size] = state;
@@ -1677,10 +1679,10 @@ public final class DepthBoard {
         final int[] weight = new int[MOST_GOERS];
         final int[] seen = new int[MOST_IN_ROW];
         // For each place how many dives may lie ahead of it, as bits: so that the rest can be as seen; in some row.
-        final int[] goesOn = new int[STATES];
-        final int[] comesTo = new int[STATES];
-        long[] total = new long[STATES];
-        long[] spare = new long[STATES];
+        final int[] goesOn = new int[MOST_PLACES];
+        final int[] comesTo = new int[MOST_PLACES];
+        long[] total = new long[MOST_PLACES];
+        long[] spare = new long[MOST_PLACES];
 
         Tally(Search search) {
             this.search = search;
@@ -1835,12 +1837,12 @@ public final class DepthBoard {
      * A position is twice a place of the search, and 1 more if the second side sends next.
      */
     private static final class Game {
-        private static final int POSITIONS = 2 * STATES;
+        private static final int POSITIONS = 2 * MOST_PLACES;
 
         final Search search;
         // Dives as place times MOST_GOERS and goer: for each place the last one leading there, and the one before each.
-        final int[] last = new int[STATES];
-        final int[] before = new int[MOST_GOERS * STATES];
+        final int[] last = new int[MOST_PLACES];
+        final int[] before = new int[MOST_GOERS * MOST_PLACES];
         final int[] turns = new int[POSITIONS];
         // How many dives from a position still have to lead to the thing.
         final int[] open = new int[POSITIONS];

@@ -173,6 +173,6 @@ public final class RulesTest {
             x.image(0);
             x.restore(0);
         }
-        check(bytes() - ahead < 1200000, "480 dear calls take bytes: " + (bytes() - ahead));
+        check(bytes() - ahead < 400000, "480 dear calls take bytes: " + (bytes() - ahead));
     }
 }
